@@ -489,7 +489,9 @@ public final class RuinHouse {
             if (!has(row) || many < 1) {
                 return;
             }
-            Arrays.fill(cells, row * width, row * width + many, 0L);
+            for (int i = row * width; i < row * width + many; i++) {
+                cells[i] = 0L;
+            }
             for (int size = 0; size <= claims.top; size++) {
                 gather(row, source, from + sign * size, claims.weight(size), many);
             }

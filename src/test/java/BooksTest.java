@@ -169,7 +169,7 @@ public final class BooksTest {
         Due.fill(x, 0, 4, 1000);
         Due.fill(x, 1, 0, 500, 8, 500);
         Due.fill(x, 2, 5, 1000);
-        Due.fill(x, 3, 19, 999, 20, 1);
+        Due.fill(x, 3, 0, 999, 20, 1);
         Due.fill(x, 4, 19, 1000);
         DUE.yes("the same mean, less spread", x.lighter(0, 1));
         DUE.no("the same mean, more spread", x.lighter(1, 0));
@@ -178,7 +178,7 @@ public final class BooksTest {
         DUE.no("neither", x.lighter(1, 2));
         DUE.no("neither", x.lighter(2, 1));
         DUE.no("just at the STOP of 19", x.lighter(3, 4));
-        DUE.yes("just at the STOP of 19", x.lighter(4, 3));
+        DUE.no("the other way, at the STOP of 0", x.lighter(4, 3));
         DUE.no("not right", x.lighter(5, 0));
         DUE.no("not right", x.lighter(0, 5));
         DUE.no("no such book", x.lighter(-1, 0));
