@@ -1,37 +1,49 @@
+import java.util.ArrayDeque;
 import java.util.Random;
 
-/** Random runs of calls, each answer compared with Slow's: all promises, edges and wrong inputs. */
+/**
+ * Random runs of 512 calls each, every answer compared with Slow's: all promises, edges and wrong
+ * inputs. Each step is one call; what should come right behind it waits in a queue.
+ */
 public final class RandomRunsTest {
     private static final Due DUE = new Due("RandomRunsTest");
-    private static final Random RANDOM = new Random(20261117L);
+    private static final Random RANDOM = new Random(20261118L);
 
-    private RuinHouse x = new RuinHouse();
-    private Slow y = new Slow();
-    private int run;
+    private final House x = new House();
+    private final Slow y = new Slow();
+    private final ArrayDeque<Runnable> next = new ArrayDeque<>();
+    private final int run;
+
+    private RandomRunsTest(int run) {
+        this.run = run;
+    }
 
     public static void main(String[] args) {
-        for (int run = 1; run <= 60; run++) {
-            RandomRunsTest test = new RandomRunsTest();
-            test.run = run;
-            test.go();
+        for (int run = 1; run <= 250; run++) {
+            new RandomRunsTest(run).go();
         }
         DUE.end();
     }
 
     private void go() {
-        for (int book = 0; book < 6; book++) fill(book);
-        for (int call = 0; call < 60; call++) one();
+        for (int book = 0; book < 6; book++) {
+            if (RANDOM.nextInt(8) > 0) fill(book);
+        }
+        while (x.calls() < House.MOST_CALLS) {
+            if (next.isEmpty()) choose();
+            if (!next.isEmpty()) next.remove().run();
+        }
     }
 
     /** Mostly within the bounds, often at them, at times outside. */
     private static int pick(int least, int most) {
-        int kind = RANDOM.nextInt(24);
+        int kind = RANDOM.nextInt(32);
         if (kind == 0) return least - 1;
         if (kind == 1) return most + 1;
         if (kind == 2) return RANDOM.nextBoolean() ? Integer.MIN_VALUE : Integer.MAX_VALUE;
         if (kind <= 5) return least;
         if (kind <= 8) return most;
-        return least + RANDOM.nextInt(most - least + 1);
+        return least + RANDOM.nextInt(Math.max(most - least + 1, 1));
     }
 
     private static int book() {
@@ -40,17 +52,18 @@ public final class RandomRunsTest {
     }
 
     private void same(String call, long got, long want) {
-        DUE.same("run " + run + " " + call, got, want);
+        DUE.same("run " + run + " call " + x.calls() + " " + call, got, want);
     }
 
     private void same(String call, boolean got, boolean want) {
         same(call, got ? 1L : 0L, want ? 1L : 0L);
     }
 
-    private void put(int book, int size, int parts) {
+    private void set(int book, int size, int parts) {
         same("set(" + book + ", " + size + ", " + parts + ")", x.set(book, size, parts), y.set(book, size, parts));
     }
 
+    /** Queues a RIGHT row for a book: only what differs is set. */
     private void fill(int book) {
         int[] row = new int[21];
         int kinds = 1 + RANDOM.nextInt(RANDOM.nextBoolean() ? 4 : 21);
@@ -66,25 +79,30 @@ public final class RandomRunsTest {
             left -= some;
         }
         row[RANDOM.nextInt(3) == 0 ? top : RANDOM.nextInt(2)] += left;
-        for (int size = 0; size <= 20; size++) put(book, size, row[size]);
+        for (int size = 0; size <= 20; size++) {
+            int at = size;
+            if (y.parts(book, size) != row[size]) next.add(() -> set(book, at, row[at]));
+        }
     }
 
-    private void one() {
-        int kind = RANDOM.nextInt(16);
-        if (kind == 0) put(pick(0, 7), pick(0, 20), pick(0, 1000));
-        if (kind == 1) fill(RANDOM.nextInt(6));
-        if (kind == 2) told();
-        if (kind == 3) layer();
-        if (kind == 4) part();
-        if (kind == 5 || kind == 6) ruin();
-        if (kind == 7 || kind == 8) ever();
-        if (kind == 9 || kind == 10) worth();
-        if (kind == 11 || kind == 12) two();
-        if (kind == 13) just();
-        if (kind == 14) lighter();
-        if (kind == 15) books();
-        if (kind >= 5 && kind <= 12) number();
-        if (RANDOM.nextInt(4) == 0) number();
+    private void choose() {
+        switch (RANDOM.nextInt(19)) {
+            case 0 -> next.add(() -> set(pick(0, 7), pick(0, 20), pick(0, 1000)));
+            case 1 -> fill(RANDOM.nextInt(6));
+            case 2 -> next.add(this::told);
+            case 3 -> next.add(this::layer);
+            case 4 -> next.add(this::part);
+            case 5, 6 -> ruin();
+            case 7, 8 -> ever();
+            case 9, 10 -> worth();
+            case 11, 12 -> two();
+            case 13 -> next.add(this::just);
+            case 14 -> next.add(this::lighter);
+            case 15 -> digits(2);
+            case 16 -> whenAndHowDeep(2);
+            case 17 -> rows(pick(0, 7));
+            default -> next.add(this::right);
+        }
     }
 
     private void told() {
@@ -94,10 +112,15 @@ public final class RandomRunsTest {
         same("told(" + b + ", " + what + ", " + d + ")", x.told(b, what, d), y.told(b, what, d));
     }
 
-    private void books() {
-        for (int b = -1; b <= 8; b++) {
-            same("right(" + b + ")", x.right(b), y.right(b));
-            for (int s = -1; s <= 21; s++) same("parts(" + b + ", " + s + ")", x.parts(b, s), y.parts(b, s));
+    private void right() {
+        int b = pick(0, 7);
+        same("right(" + b + ")", x.right(b), y.right(b));
+    }
+
+    private void rows(int b) {
+        for (int k = 0; k < 4; k++) {
+            int size = pick(0, 20);
+            next.add(() -> same("parts(" + b + ", " + size + ")", x.parts(b, size), y.parts(b, size)));
         }
     }
 
@@ -109,7 +132,7 @@ public final class RandomRunsTest {
         int to = pick(0, 6);
         same("layer(" + b + ", " + from + ", " + up + ", " + given + ", " + to + ")",
                 x.layer(b, from, up, given, to), y.layer(b, from, up, given, to));
-        books();
+        rows(to);
     }
 
     private void part() {
@@ -119,7 +142,7 @@ public final class RandomRunsTest {
         int to = pick(0, 6);
         same("part(" + b + ", " + share + ", " + given + ", " + to + ")",
                 x.part(b, share, given, to), y.part(b, share, given, to));
-        books();
+        rows(to);
     }
 
     private void ruin() {
@@ -127,20 +150,31 @@ public final class RandomRunsTest {
         int purse = pick(0, RANDOM.nextBoolean() ? 100 : 20);
         int premium = pick(0, RANDOM.nextBoolean() ? 20 : 4);
         int n = pick(1, RANDOM.nextInt(4) == 0 ? 40 : 9);
-        same("ruin(" + purse + ", " + premium + ", " + b + ", " + n + ")",
-                x.ruin(purse, premium, b, n), y.ruin(purse, premium, b, n));
-        for (int t = -1; t <= 41; t++) {
-            for (int i = -1; i <= 3 * n + 1 && i <= 121; i++) same("at(" + t + ", " + i + ")", x.at(t, i), y.at(t, i));
-        }
-        for (int k = -1; k <= 21; k++) {
-            for (int i = -1; i <= 3 * n + 1 && i <= 121; i++) same("deep(" + k + ", " + i + ")", x.deep(k, i), y.deep(k, i));
+        next.add(() -> same("ruin(" + purse + ", " + premium + ", " + b + ", " + n + ")",
+                x.ruin(purse, premium, b, n), y.ruin(purse, premium, b, n)));
+        next.add(() -> whenAndHowDeep(8));
+        next.add(() -> digits(6));
+    }
+
+    private void whenAndHowDeep(int many) {
+        int most = Math.max(y.ticks(), 1);
+        for (int k = 0; k < many; k++) {
+            int t = pick(1, most);
+            int depth = pick(1, 20);
+            int i = pick(1, 3 * most);
+            if (RANDOM.nextBoolean()) {
+                next.add(() -> same("at(" + t + ", " + i + ")", x.at(t, i), y.at(t, i)));
+            } else {
+                next.add(() -> same("deep(" + depth + ", " + i + ")", x.deep(depth, i), y.deep(depth, i)));
+            }
         }
     }
 
     private void ever() {
         int b = book();
         int purse = pick(0, 60);
-        same("ever(" + purse + ", " + b + ")", x.ever(purse, b), y.ever(purse, b));
+        next.add(() -> same("ever(" + purse + ", " + b + ")", x.ever(purse, b), y.ever(purse, b)));
+        next.add(() -> digits(6));
     }
 
     private void worth() {
@@ -149,8 +183,9 @@ public final class RandomRunsTest {
         int premium = pick(0, RANDOM.nextBoolean() ? 20 : 4);
         int keep = RANDOM.nextBoolean() ? pick(900, 1000) : pick(0, 1000);
         int n = pick(0, 6);
-        same("worth(" + purse + ", " + premium + ", " + b + ", " + keep + ", " + n + ")",
-                x.worth(purse, premium, b, keep, n), y.worth(purse, premium, b, keep, n));
+        next.add(() -> same("worth(" + purse + ", " + premium + ", " + b + ", " + keep + ", " + n + ")",
+                x.worth(purse, premium, b, keep, n), y.worth(purse, premium, b, keep, n)));
+        next.add(() -> digits(6));
     }
 
     private void two() {
@@ -159,8 +194,9 @@ public final class RandomRunsTest {
         int second = book();
         int n = pick(1, RANDOM.nextInt(4) == 0 ? 5 : 3);
         boolean help = RANDOM.nextInt(3) > 0;
-        same("two(" + what + ", " + first + ", " + second + ", " + n + ", " + help + ")",
-                x.two(what, first, second, n, help), y.two(what, first, second, n, help));
+        next.add(() -> same("two(" + what + ", " + first + ", " + second + ", " + n + ", " + help + ")",
+                x.two(what, first, second, n, help), y.two(what, first, second, n, help)));
+        next.add(() -> digits(6));
     }
 
     private void just() {
@@ -181,8 +217,11 @@ public final class RandomRunsTest {
         same("lighter(" + b + ", " + c + ")", x.lighter(b, c), y.lighter(b, c));
     }
 
-    private void number() {
-        same("decimals()", x.decimals(), y.decimals());
-        for (int i = -1; i <= y.decimals() + 1; i++) same("digit(" + i + ")", x.digit(i), y.digit(i));
+    private void digits(int many) {
+        next.add(() -> same("decimals()", x.decimals(), y.decimals()));
+        for (int k = 0; k < many; k++) {
+            int i = pick(0, y.decimals());
+            next.add(() -> same("digit(" + i + ")", x.digit(i), y.digit(i)));
+        }
     }
 }

@@ -119,6 +119,10 @@ final class Slow {
         return moved.mod(BigInteger.TEN).intValue();
     }
 
+    int ticks() {
+        return ticks;
+    }
+
     int at(int t, int i) {
         return t < 1 || t > ticks || i < 1 || i > 3 * ticks ? -1 : decimal(at[t], i);
     }
