@@ -493,7 +493,10 @@ public final class RuinHouse {
                 cells[i] = 0L;
             }
             for (int size = 0; size <= claims.top; size++) {
-                gather(row, source, from + sign * size, claims.weight(size), many);
+                int origin = from + sign * size;
+                if (source.has(origin)) {
+                    gather(row, source, origin, claims.weight(size), many);
+                }
             }
             long carry = 0L;
             for (int i = row * width; i < row * width + many; i++) {
@@ -503,9 +506,9 @@ public final class RuinHouse {
             }
         }
 
-        /** Without carrying: the weights are together so few that the sums fit. */
+        /** Without carrying: the weights are together so few that the sums fit. Both rows are there. */
         private void gather(int row, Rows source, int from, long weight, int many) {
-            if (weight == 0L || !source.has(from)) {
+            if (weight == 0L) {
                 return;
             }
             int to = row * width;
