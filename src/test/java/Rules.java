@@ -57,10 +57,11 @@ import javax.tools.SimpleJavaFileObject;
 import javax.tools.ToolProvider;
 
 /**
- * The rules of LANGUAGE.md, looked at in javac's own tree of the program. Where a rule can't be seen
- * in a tree (has this index been looked at?), what is asked is narrower than the rule: no while, no
- * cast of objects, constant divisors, nothing made outside constructors, no double. A program that
- * needs one of these may have it by the rule, and then this has to be widened.
+ * The rules of LANGUAGE.md, looked at in javac's own tree of the program. Where a tree can't tell, what
+ * is asked is narrower than the rule: no while, no cast of objects, constant divisors, nothing made
+ * outside constructors, no double. A program that needs one of these may have it by the rule, and then
+ * this has to be widened. Not looked at here: whether an index or a reference was tested ahead of its
+ * use (AnyCallTest and RandomRunsTest try that by calls), and whether a static row is changed.
  */
 final class Rules extends TreePathScanner<Void, Void> {
     private static final Set<String> IMPORTS = Set.of("java.util.Arrays", "java.util.ArrayList", "java.util.List",
